@@ -25,6 +25,8 @@ final class HappeningsTest {
         exactSetFollowsTheNamedBills();
         oldestBillsComeLast();
         partOfAnOldBillIsNoDispute();
+        oneCentIsEnoughForEachStep();
+        fullBooksAreGoneThroughToTheirEnd();
 
         assignDoesTheStepsTwoAndThree();
         assignRefuses();
@@ -301,6 +303,40 @@ final class HappeningsTest {
         Check.same("rest", Check.billOf(x, 0), "open 0 paid 100 taken 0 disputed 0 off 0");
     }
 
+    private static void oneCentIsEnoughForEachStep() {
+        CashAllocator x = new CashAllocator();
+        x.bill(3, 1, 7, 0, 0);
+        x.bill(3, 50, 8, 0, 0);
+        x.bill(3, 1, 9, 0, 0);
+        x.receive(NONE, 2, 7);
+        Check.same("customerOf(0)", x.customerOf(0), 3);
+        Check.same("a cent that is named", x.open(0), 0);
+        Check.same("a cent just in full", x.open(2), 0);
+        Check.same("oldest", x.open(1), 50);
+        x.bill(4, 1, 6, 0, 0);
+        x.bill(4, 50, 6, 0, 0);
+        x.receive(NONE, 2, 6);
+        Check.same("a cent in part", Check.billOf(x, 4), "open 0 paid 1 taken 0 disputed 49 off 0");
+        x.settle(4, false);
+        x.receive(4, 1, 0);
+        Check.same("a cent for the oldest", Check.billOf(x, 4), "open 48 paid 2 taken 0 disputed 0 off 0");
+    }
+
+    private static void fullBooksAreGoneThroughToTheirEnd() {
+        CashAllocator x = new CashAllocator();
+        for (int number = 0; number < 40; number++) {
+            x.bill(0, 2, 1, 0, 0);
+        }
+        x.receive(0, 1000, 1);
+        Check.same("rest of step 1", x.unapplied(0), 920);
+        x.bounce(0);
+        x.receive(0, 1000, 0);
+        Check.same("rest of step 3", x.unapplied(1), 920);
+        x.receive(NONE, 10, 2);
+        Check.same("unknown reference", x.customerOf(2), NONE);
+        Check.same("all are paid", x.openOf(0), 0);
+    }
+
     // ---- promises 4 and 5
 
     private static void assignDoesTheStepsTwoAndThree() {
@@ -352,10 +388,13 @@ final class HappeningsTest {
         x.bill(0, 4, 6, 5000, 0);
         Check.same("apply(1)", x.apply(1), 8);
         Check.same("taken(3)", x.taken(3), 2);
+        x.bill(0, 9, 6, 10000, 0);
+        Check.same("apply(0) with nothing left, and a bill with nothing due", x.apply(0), 0);
+        Check.same("it is not paid", x.open(4), 9);
         x.payBack(1);
-        x.bill(0, 4, 6, 0, 0);
+        x.advance(1);
         Check.same("apply(1) after payBack", x.apply(1), 0);
-        Check.same("open(4)", x.open(4), 4);
+        Check.same("open(4)", x.open(4), 9);
     }
 
     private static void applyRefuses() {
@@ -474,7 +513,7 @@ final class HappeningsTest {
     private static void bounceRefuses() {
         CashAllocator x = new CashAllocator();
         x.bill(0, 10, 1, 0, 0);
-        x.receive(0, 15, 0);
+        x.receive(0, 11, 0);
         x.receive(0, 5, 0);
         x.payBack(0);
         x.bounce(1);
