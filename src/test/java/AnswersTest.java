@@ -1,22 +1,20 @@
-/** The promises 10 to 29: bills, receipts and sums. */
+/**
+ * The promises 10 to 29, bills, receipts and sums, with ordinary inputs; the limits and the refused calls are in
+ * PromisesTest.
+ */
 final class AnswersTest {
 
     private static final int NONE = CashAllocator.NONE;
-    private static final int[] NO_NUMBERS = {-1, 3, 40, Integer.MAX_VALUE, Integer.MIN_VALUE};
-    private static final int[] NO_CUSTOMERS = {-1, 8, Integer.MAX_VALUE, Integer.MIN_VALUE};
 
     public static void main(String[] args) {
         tellsOfBills();
-        refusesOtherBills();
         addsWhatIsOpenOfACustomer();
         choosesTheSetWithTheFewestBills();
         choosesTheSetWithTheLowestNumbers();
         choosesOfOpenBillsOfTheCustomerAlone();
         choosesByWhatIsDueNow();
         choosesAmongFortyBills();
-        setForRefuses();
         tellsOfReceipts();
-        refusesOtherReceipts();
         addsUpEveryCent();
         addsUpTheGreatestSums();
         Check.finish();
@@ -49,19 +47,6 @@ final class AnswersTest {
         Check.same("due(2)", x.due(2), 50);
     }
 
-    private static void refusesOtherBills() {
-        CashAllocator x = threeOfEach();
-        for (int bill : NO_NUMBERS) {
-            Check.refusesIndex(x, "open", () -> x.open(bill));
-            Check.refusesIndex(x, "due", () -> x.due(bill));
-            Check.refusesIndex(x, "paid", () -> x.paid(bill));
-            Check.refusesIndex(x, "taken", () -> x.taken(bill));
-            Check.refusesIndex(x, "disputed", () -> x.disputed(bill));
-            Check.refusesIndex(x, "writtenOff", () -> x.writtenOff(bill));
-            Check.refusesIndex(x, "appliedTo of a bill", () -> x.appliedTo(0, bill));
-        }
-    }
-
     private static void addsWhatIsOpenOfACustomer() {
         CashAllocator x = new CashAllocator();
         x.bill(0, 100, 1, 1000, 5);
@@ -72,9 +57,6 @@ final class AnswersTest {
         Check.same("openOf(3)", x.openOf(3), 0);
         x.receive(0, 30, 2);
         Check.same("openOf(0) without the dispute", x.openOf(0), 100);
-        for (int customer : NO_CUSTOMERS) {
-            Check.refusesIndex(x, "openOf", () -> x.openOf(customer));
-        }
     }
 
     private static void expectSet(CashAllocator x, int customer, int sum, int low, int middle, int high) {
@@ -161,20 +143,6 @@ final class AnswersTest {
         expectSet(x, 5, 4000000, NONE, NONE, NONE);
     }
 
-    private static void setForRefuses() {
-        CashAllocator x = threeOfEach();
-        for (int customer : NO_CUSTOMERS) {
-            Check.refusesIndex(x, "setFor", () -> x.setFor(customer, 1, 0));
-            Check.refusesIndex(x, "setFor, sum 0", () -> x.setFor(customer, 0, 0));
-        }
-        for (int place : NO_NUMBERS) {
-            Check.refusesIndex(x, "setFor", () -> x.setFor(0, 1, place));
-            Check.refusesIndex(x, "setFor, sum 0", () -> x.setFor(0, 0, place));
-        }
-        Check.refusesArgument(x, "setFor(0, 0, 0)", () -> x.setFor(0, 0, 0));
-        Check.refusesArgument(x, "setFor(0, -5, 2)", () -> x.setFor(0, -5, 2));
-    }
-
     // ---- promises 19 to 23
 
     private static void tellsOfReceipts() {
@@ -194,16 +162,6 @@ final class AnswersTest {
         Check.same("appliedTo(2, 2) then", x.appliedTo(2, 2), 0);
         x.bounce(0);
         Check.same("unapplied(0) then", x.unapplied(0), 0);
-    }
-
-    private static void refusesOtherReceipts() {
-        CashAllocator x = threeOfEach();
-        for (int receipt : NO_NUMBERS) {
-            Check.refusesIndex(x, "customerOf", () -> x.customerOf(receipt));
-            Check.refusesIndex(x, "appliedTo", () -> x.appliedTo(receipt, 0));
-            Check.refusesIndex(x, "unapplied", () -> x.unapplied(receipt));
-            Check.refusesIndex(x, "hasBounced", () -> x.hasBounced(receipt) ? 1 : 0);
-        }
     }
 
     // ---- promises 24 to 29

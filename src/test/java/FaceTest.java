@@ -6,7 +6,7 @@ import java.util.Arrays;
 import java.util.Set;
 import java.util.TreeSet;
 
-/** The public face, and promise 1. */
+/** The public face, and that objects have nothing in common. */
 final class FaceTest {
 
     private static final String[] METHODS = {
@@ -43,7 +43,6 @@ final class FaceTest {
     public static void main(String[] args) {
         hasJustTheMethodsOfTheDocument();
         hasJustOneConstructorAndOneConstant();
-        startsWithNothingOnDayZero();
         startsAnewWithEachObject();
         Check.finish();
     }
@@ -86,24 +85,6 @@ final class FaceTest {
         }
         Check.same("fields", found.toString(), "[public static final int NONE]");
         Check.same("NONE", CashAllocator.NONE, -1);
-    }
-
-    private static void startsWithNothingOnDayZero() {
-        CashAllocator x = new CashAllocator();
-        Check.same("bills()", x.bills(), 0);
-        Check.same("receipts()", x.receipts(), 0);
-        Check.same("day()", x.day(), 0);
-        Check.same("received()", x.received(), 0);
-        Check.same("applied()", x.applied(), 0);
-        Check.same("allUnapplied()", x.allUnapplied(), 0);
-        Check.same("paidBack()", x.paidBack(), 0);
-        Check.same("bounced()", x.bounced(), 0);
-        for (int customer = 0; customer < 8; customer++) {
-            Check.same("openOf of a new object", x.openOf(customer), 0);
-            Check.same("setFor of a new object", x.setFor(customer, 1, 0), CashAllocator.NONE);
-        }
-        Check.refusesIndex(x, "open(0)", () -> x.open(0));
-        Check.refusesIndex(x, "unapplied(0)", () -> x.unapplied(0));
     }
 
     private static void startsAnewWithEachObject() {

@@ -1,19 +1,13 @@
-/** The promises 2 to 9: what happens. */
+/** The promises 2 to 9, what happens, with ordinary inputs; the limits and the refused calls are in PromisesTest. */
 final class HappeningsTest {
 
     private static final int NONE = CashAllocator.NONE;
 
     public static void main(String[] args) {
         billsAreNumberedInTheirOrder();
-        billTakesTheEdgesOfItsRanges();
-        billRefusesWrongArguments();
-        billRefusesTheFortyFirst();
         discountIsRoundedDown();
         discountEndsWithItsLastDay();
 
-        receiveTakesTheEdgesOfItsRanges();
-        receiveRefusesWrongArguments();
-        receiveRefusesTheThirtyFirst();
         namedBillsGoByRisingNumbers();
         namedBillsAreThoseOfTheCustomer();
         unknownPayerIsFoundByTheFirstOpenBill();
@@ -29,19 +23,14 @@ final class HappeningsTest {
         fullBooksAreGoneThroughToTheirEnd();
 
         assignDoesTheStepsTwoAndThree();
-        assignRefuses();
         applyDoesTheStepsTwoAndThreeAgain();
-        applyRefuses();
         payBackPaysTheRest();
-        payBackRefuses();
         bounceUndoesPaymentsAndDiscounts();
         bounceCountsEachBillOnce();
         bounceEndsItsOwnDisputes();
         bounceLeavesWhatIsSettled();
         bounceLeavesDisputesOfOthers();
-        bounceRefuses();
         settleOpensOrWritesOff();
-        settleRefuses();
         advanceLetsDaysPass();
         Check.finish();
     }
@@ -55,42 +44,6 @@ final class HappeningsTest {
             Check.same("bills()", x.bills(), number + 1);
             Check.same("open", x.open(number), 100 + number);
         }
-    }
-
-    private static void billTakesTheEdgesOfItsRanges() {
-        CashAllocator x = new CashAllocator();
-        Check.same("lowest bill", x.bill(0, 1, 1, 0, 0), 0);
-        Check.same("highest bill", x.bill(7, 1000000, 9999, 10000, 90), 1);
-        Check.same("open(1)", x.open(1), 1000000);
-        Check.same("due(1)", x.due(1), 0);
-        Check.same("due(0)", x.due(0), 1);
-    }
-
-    private static void billRefusesWrongArguments() {
-        CashAllocator x = new CashAllocator();
-        Check.refusesIndex(x, "bill of customer -1", () -> x.bill(NONE, 1, 1, 0, 0));
-        Check.refusesIndex(x, "bill of customer 8", () -> x.bill(8, 1, 1, 0, 0));
-        Check.refusesIndex(x, "bill of customer 8 and amount 0", () -> x.bill(8, 0, 0, -1, -1));
-        Check.refusesArgument(x, "bill of 0", () -> x.bill(0, 0, 1, 0, 0));
-        Check.refusesArgument(x, "bill of 1000001", () -> x.bill(0, 1000001, 1, 0, 0));
-        Check.refusesArgument(x, "bill with reference 0", () -> x.bill(0, 1, 0, 0, 0));
-        Check.refusesArgument(x, "bill with reference 10000", () -> x.bill(0, 1, 10000, 0, 0));
-        Check.refusesArgument(x, "bill with rate -1", () -> x.bill(0, 1, 1, -1, 0));
-        Check.refusesArgument(x, "bill with rate 10001", () -> x.bill(0, 1, 1, 10001, 0));
-        Check.refusesArgument(x, "bill with days -1", () -> x.bill(0, 1, 1, 0, -1));
-        Check.refusesArgument(x, "bill with days 91", () -> x.bill(0, 1, 1, 0, 91));
-        Check.refusesArgument(x, "bill of the lowest int", () -> x.bill(0, Integer.MIN_VALUE, 1, 0, 0));
-        Check.refusesIndex(x, "bill of the lowest customer", () -> x.bill(Integer.MIN_VALUE, 1, 1, 0, 0));
-    }
-
-    private static void billRefusesTheFortyFirst() {
-        CashAllocator x = new CashAllocator();
-        for (int number = 0; number < 40; number++) {
-            x.bill(0, 1, 1, 0, 0);
-        }
-        Check.refusesState(x, "the 41st bill", () -> x.bill(0, 1, 1, 0, 0));
-        Check.refusesArgument(x, "the 41st bill, of 0", () -> x.bill(0, 0, 1, 0, 0));
-        Check.refusesIndex(x, "the 41st bill, of customer 8", () -> x.bill(8, 0, 1, 0, 0));
     }
 
     private static void discountIsRoundedDown() {
@@ -120,39 +73,6 @@ final class HappeningsTest {
     }
 
     // ---- promise 3
-
-    private static void receiveTakesTheEdgesOfItsRanges() {
-        CashAllocator x = new CashAllocator();
-        Check.same("lowest receipt", x.receive(NONE, 1, 0), 0);
-        Check.same("highest receipt", x.receive(7, 1000000, 9999), 1);
-        Check.same("receipt of customer 0", x.receive(0, 1, 1), 2);
-        Check.same("customerOf(0)", x.customerOf(0), NONE);
-        Check.same("customerOf(1)", x.customerOf(1), 7);
-        Check.same("unapplied(1)", x.unapplied(1), 1000000);
-    }
-
-    private static void receiveRefusesWrongArguments() {
-        CashAllocator x = new CashAllocator();
-        x.bill(0, 10, 1, 0, 0);
-        Check.refusesIndex(x, "receipt of customer -2", () -> x.receive(-2, 1, 0));
-        Check.refusesIndex(x, "receipt of customer 8", () -> x.receive(8, 1, 0));
-        Check.refusesIndex(x, "receipt of customer 8 and amount 0", () -> x.receive(8, 0, -1));
-        Check.refusesArgument(x, "receipt of 0", () -> x.receive(0, 0, 0));
-        Check.refusesArgument(x, "receipt of -1", () -> x.receive(NONE, -1, 0));
-        Check.refusesArgument(x, "receipt of 1000001", () -> x.receive(0, 1000001, 0));
-        Check.refusesArgument(x, "receipt with reference -1", () -> x.receive(0, 1, -1));
-        Check.refusesArgument(x, "receipt with reference 10000", () -> x.receive(0, 1, 10000));
-    }
-
-    private static void receiveRefusesTheThirtyFirst() {
-        CashAllocator x = new CashAllocator();
-        for (int number = 0; number < 30; number++) {
-            Check.same("receive", x.receive(0, 1, 0), number);
-        }
-        Check.refusesState(x, "the 31st receipt", () -> x.receive(0, 1, 0));
-        Check.refusesArgument(x, "the 31st receipt, of 0", () -> x.receive(0, 0, 0));
-        Check.refusesIndex(x, "the 31st receipt, of customer 8", () -> x.receive(8, 0, 0));
-    }
 
     private static void namedBillsGoByRisingNumbers() {
         CashAllocator x = new CashAllocator();
@@ -360,20 +280,6 @@ final class HappeningsTest {
         Check.same("open(2)", x.open(2), 1);
     }
 
-    private static void assignRefuses() {
-        CashAllocator x = new CashAllocator();
-        x.bill(0, 10, 1, 0, 0);
-        x.receive(0, 3, 0);
-        x.receive(NONE, 3, 0);
-        x.bounce(1);
-        Check.refusesIndex(x, "assign(2, 0)", () -> x.assign(2, 0));
-        Check.refusesIndex(x, "assign(-1, 0)", () -> x.assign(-1, 0));
-        Check.refusesIndex(x, "assign(0, 8)", () -> x.assign(0, 8));
-        Check.refusesIndex(x, "assign(1, NONE)", () -> x.assign(1, NONE));
-        Check.refusesState(x, "assign(0, 0)", () -> x.assign(0, 0));
-        Check.refusesState(x, "assign(1, 0), bounced", () -> x.assign(1, 0));
-    }
-
     private static void applyDoesTheStepsTwoAndThreeAgain() {
         CashAllocator x = new CashAllocator();
         x.receive(0, 100, 5);
@@ -397,18 +303,6 @@ final class HappeningsTest {
         Check.same("open(4)", x.open(4), 9);
     }
 
-    private static void applyRefuses() {
-        CashAllocator x = new CashAllocator();
-        x.receive(0, 3, 0);
-        x.receive(NONE, 3, 0);
-        x.bounce(0);
-        x.bill(0, 10, 1, 0, 0);
-        Check.refusesIndex(x, "apply(2)", () -> x.apply(2));
-        Check.refusesIndex(x, "apply(-1)", () -> x.apply(-1));
-        Check.refusesState(x, "apply(0), bounced", () -> x.apply(0));
-        Check.refusesState(x, "apply(1), with no customer", () -> x.apply(1));
-    }
-
     // ---- promises 6 and 7
 
     private static void payBackPaysTheRest() {
@@ -421,21 +315,6 @@ final class HappeningsTest {
         Check.same("appliedTo(0, 0)", x.appliedTo(0, 0), 10);
         Check.same("payBack(1), with no customer", x.payBack(1), 8);
         Check.same("paidBack()", x.paidBack(), 23);
-    }
-
-    private static void payBackRefuses() {
-        CashAllocator x = new CashAllocator();
-        x.bill(0, 10, 1, 0, 0);
-        x.receive(0, 10, 0);
-        x.receive(0, 4, 0);
-        x.receive(0, 4, 0);
-        x.payBack(1);
-        x.bounce(2);
-        Check.refusesIndex(x, "payBack(3)", () -> x.payBack(3));
-        Check.refusesIndex(x, "payBack(-1)", () -> x.payBack(-1));
-        Check.refusesState(x, "payBack(0), all applied", () -> x.payBack(0));
-        Check.refusesState(x, "payBack(1), paid back", () -> x.payBack(1));
-        Check.refusesState(x, "payBack(2), bounced", () -> x.payBack(2));
     }
 
     private static void bounceUndoesPaymentsAndDiscounts() {
@@ -510,19 +389,6 @@ final class HappeningsTest {
         Check.same("after it", Check.billOf(x, 0), "open 30 paid 50 taken 0 disputed 20 off 0");
     }
 
-    private static void bounceRefuses() {
-        CashAllocator x = new CashAllocator();
-        x.bill(0, 10, 1, 0, 0);
-        x.receive(0, 11, 0);
-        x.receive(0, 5, 0);
-        x.payBack(0);
-        x.bounce(1);
-        Check.refusesIndex(x, "bounce(2)", () -> x.bounce(2));
-        Check.refusesIndex(x, "bounce(-1)", () -> x.bounce(-1));
-        Check.refusesState(x, "bounce(0), paid back", () -> x.bounce(0));
-        Check.refusesState(x, "bounce(1), bounced", () -> x.bounce(1));
-    }
-
     // ---- promises 8 and 9
 
     private static void settleOpensOrWritesOff() {
@@ -540,25 +406,10 @@ final class HappeningsTest {
         Check.same("written off twice", Check.billOf(x, 0), "open 0 paid 92 taken 0 disputed 0 off 8");
     }
 
-    private static void settleRefuses() {
-        CashAllocator x = new CashAllocator();
-        x.bill(0, 100, 7, 0, 0);
-        x.bill(0, 100, 8, 0, 0);
-        x.receive(0, 80, 7);
-        x.settle(0, false);
-        Check.refusesIndex(x, "settle(2, true)", () -> x.settle(2, true));
-        Check.refusesIndex(x, "settle(-1, false)", () -> x.settle(-1, false));
-        Check.refusesState(x, "settle(0, true), settled", () -> x.settle(0, true));
-        Check.refusesState(x, "settle(1, false), never disputed", () -> x.settle(1, false));
-    }
-
     private static void advanceLetsDaysPass() {
         CashAllocator x = new CashAllocator();
         Check.same("advance(1)", x.advance(1), 1);
         Check.same("advance(100)", x.advance(100), 101);
         Check.same("day()", x.day(), 101);
-        Check.refusesArgument(x, "advance(0)", () -> x.advance(0));
-        Check.refusesArgument(x, "advance(101)", () -> x.advance(101));
-        Check.refusesArgument(x, "advance(-1)", () -> x.advance(-1));
     }
 }

@@ -1,6 +1,9 @@
 import java.util.Random;
 
-/** Runs of calls that a fixed seed makes, each call put to the program and to the Ledger. */
+/**
+ * Runs of calls that a fixed seed makes, each call put to the program and to the Ledger. Calls with wrong arguments are
+ * put to the program alone, so that a change that they made would show.
+ */
 final class LedgerTest {
 
     private static final int RUNS = 1500;
@@ -35,7 +38,11 @@ final class LedgerTest {
 
     private void go() {
         while (calls + 1 + QUESTIONS_A_STEP <= MOST_CALLS) {
-            happen();
+            if (random.nextInt(6) == 0) {
+                goWrong();
+            } else {
+                happen();
+            }
             for (int question = 0; question < QUESTIONS_A_STEP; question++) {
                 ask();
             }
@@ -51,6 +58,17 @@ final class LedgerTest {
             got = Ledger.REFUSED;
         }
         Check.same("run " + run + " call " + calls + ": " + call, got, want);
+    }
+
+    private void refuse(Class<? extends RuntimeException> want, String call, Check.Call answer) {
+        calls++;
+        String got;
+        try {
+            got = String.valueOf(answer.answer());
+        } catch (RuntimeException thrown) {
+            got = thrown.getClass().toString();
+        }
+        Check.same("run " + run + " call " + calls + ": " + call, got, want.toString());
     }
 
     private int someAmount() {
@@ -125,6 +143,54 @@ final class LedgerTest {
                 int days = 1 + random.nextInt(6);
                 expect("advance(" + days + ")", ledger.advance(days), () -> program.advance(days));
             }
+        }
+    }
+
+    /** Just outside 0 to end - 1, or far outside. */
+    private int outside(int end) {
+        return new int[] {-1, end, -2, end + 1, Integer.MIN_VALUE, Integer.MAX_VALUE}[random.nextInt(6)];
+    }
+
+    private void goWrong() {
+        if (random.nextBoolean()) {
+            makeWrong();
+        } else {
+            changeWrong();
+        }
+    }
+
+    /** What makes a bill or a receipt has one argument that is wrong, and the others are right. */
+    private void makeWrong() {
+        Class<? extends RuntimeException> index = IndexOutOfBoundsException.class;
+        Class<? extends RuntimeException> argument = IllegalArgumentException.class;
+        int reference = 1 + random.nextInt(references);
+        int amount = new int[] {0, -1, 1000001, Integer.MIN_VALUE, Integer.MAX_VALUE}[random.nextInt(5)];
+        switch (random.nextInt(8)) {
+            case 0 -> refuse(index, "bill of no customer", () -> program.bill(outside(8), 5, reference, 0, 0));
+            case 1 -> refuse(argument, "bill of " + amount, () -> program.bill(0, amount, reference, 0, 0));
+            case 2 -> refuse(argument, "bill without reference", () -> program.bill(0, 5, 0, 0, 0));
+            case 3 -> refuse(argument, "bill, rate", () -> program.bill(0, 5, reference, outside(10001), 0));
+            case 4 -> refuse(argument, "bill, days", () -> program.bill(0, 5, reference, 0, outside(91)));
+            case 5 -> refuse(index, "receipt of no customer", () -> program.receive(8, amount, reference));
+            case 6 -> refuse(argument, "receipt of " + amount, () -> program.receive(0, amount, reference));
+            default -> refuse(argument, "receipt, reference", () -> program.receive(-1, 5, outside(10000)));
+        }
+    }
+
+    private void changeWrong() {
+        Class<? extends RuntimeException> index = IndexOutOfBoundsException.class;
+        int receipt = outside(ledger.receipts());
+        int bill = outside(ledger.bills());
+        switch (random.nextInt(7)) {
+            case 0 -> refuse(index, "assign(" + receipt + ", 0)", () -> program.assign(receipt, 0));
+            case 1 -> refuse(index, "apply(" + receipt + ")", () -> program.apply(receipt));
+            case 2 -> refuse(index, "payBack(" + receipt + ")", () -> program.payBack(receipt));
+            case 3 -> refuse(index, "bounce(" + receipt + ")", () -> program.bounce(receipt));
+            case 4 -> refuse(index, "settle(" + bill + ", true)", () -> program.settle(bill, true));
+            case 5 -> refuse(index, "assign of no customer",
+                () -> program.assign(Math.max(0, ledger.receipts() - 1), outside(8)));
+            default -> refuse(IllegalArgumentException.class, "advance",
+                () -> program.advance(random.nextBoolean() ? 0 : 101 + random.nextInt(3)));
         }
     }
 
