@@ -34,6 +34,7 @@ final class TermsTest {
         noDiscountIsStillInFull();
         partTakesNoDiscount();
         notAppliedIsAtFirstTheAmount();
+        theReadmeTellsItRight();
         Check.finish();
     }
 
@@ -522,6 +523,24 @@ final class TermsTest {
             receipt 1: unapplied 1000000, customerOf -1
             receipt 2: unapplied 1000000, customerOf 6
             sums: received 2000001, applied 0, allUnapplied 2000001
+            """);
+    }
+
+    // ---- the example in README.md
+
+    private static void theReadmeTellsItRight() {
+        Run.shows("README.md: the example", """
+            bill(0, 10000, 7, 200, 10) = 0
+            receive(0, 9800, 7) = 0
+            open(0) = 0
+            taken(0) = 200
+            unapplied(0) = 0
+            bounce(0) = 1
+            due(0) = 9800
+            receive(NONE, 9700, 7) = 1
+            customerOf(1) = 0
+            disputed(0) = 300
+            settle(0, true) = 300
             """);
     }
 }
